@@ -703,7 +703,8 @@ public final class Ballotscript {
                     return;
                 }
                 keepTie(those);
-                for (int tally = latest - 1; breaking == 'q' && tally >= 0; tally--) {
+                int ahead = breaking == 'q' ? latest - 1 : NONE;
+                for (int tally = ahead; tally >= 0 && Integer.bitCount(those) > 1; tally--) {
                     those = leaders(those, tally, best);
                 }
                 remove(breaking == 'h' ? highest(those) : lowest(those), best);
