@@ -1,12 +1,5 @@
 /** Each promise by its number: ordinary inputs, the edges that the document names, wrong inputs. */
-public final class PromiseTest {
-    private static final int LOW = Integer.MIN_VALUE;
-    private static final int HIGH = Integer.MAX_VALUE;
-    private static final Check CHECK = new Check();
-
-    private Ballotscript x = new Ballotscript();
-    private String promise = "";
-
+public final class PromiseTest extends Bench {
     public static void main(String[] args) {
         new PromiseTest().newObject();
         new PromiseTest().enter();
@@ -48,75 +41,32 @@ public final class PromiseTest {
 
     // ---- helpers
 
-    private void due(String what, long want, Check.Call call) {
-        CHECK.due(promise + ": " + what, want, call);
-    }
-
-    private void text(String text) {
-        x.wipe();
-        for (char letter : text.toCharArray()) {
-            x.type(letter);
-        }
-    }
-
-    private int ruleOf(String text) {
-        text(text);
-        return x.rule();
-    }
-
-    private int mendTo(int rule, String text) {
-        text(text);
-        return x.mend(rule);
-    }
-
-    private int ballot(int vote, int person, int... order) {
-        for (int candidate : order) {
-            x.mark(candidate);
-        }
-        return x.cast(vote, person);
-    }
-
-    /** A house whose persons are all allowed on roll 0, with one rule and one vote that has it. */
-    private void house(String rule, int candidates, int seats) {
-        x = new Ballotscript();
-        for (int person = 0; person < 20; person++) {
-            x.enter(0, person, 0, 1000);
-        }
-        ruleOf(rule);
-        x.open(0, candidates, seats, 0);
-    }
-
     private void noVote(java.util.function.IntToLongFunction call) {
         for (int vote : new int[] {-1, 1, 8, LOW, HIGH}) {
             due("vote " + vote, Check.INDEX, () -> call.applyAsLong(vote));
         }
     }
 
-    private void bothWinners(String what, int want) {
-        due(what, want, () -> x.winners(0));
-        due(what + ", by hand", want, () -> x.winnersByHand(0));
-    }
-
     // ---- promises
 
     private void newObject() {
-        promise = "1";
+        about = "1";
         due("no entry", Check.INDEX, () -> x.strike(0));
         due("no rule", Check.INDEX, () -> x.commands(0));
         due("no vote", Check.INDEX, () -> x.winners(0));
         due("no ballot", Check.INDEX, () -> x.why(0));
-        due("none allowed", 0, () -> x.isAllowed(0, 0, 0) ? 1 : 0);
+        due("none allowed", 0, () -> x.isAllowed(0, 0, 0));
         due("no text", 0, () -> x.wipe());
         due("none stale", 0, () -> x.stale());
         due("none marked", 1, () -> x.mark(5));
         due("today is 0", 1, () -> x.pass(1));
-        Ballotscript other = new Ballotscript();
+        House other = new House();
         due("another house", 0, () -> other.enter(0, 0, 0, 0));
         due("apart from this one", Check.INDEX, () -> x.strike(0));
     }
 
     private void enter() {
-        promise = "2";
+        about = "2";
         due("first", 0, () -> x.enter(0, 0, 0, 0));
         due("last of each", 1, () -> x.enter(2, 19, 1000, 1000));
         due("all days", 2, () -> x.enter(1, 7, 0, 1000));
@@ -132,7 +82,7 @@ public final class PromiseTest {
         }
         due("to ahead of from", Check.ARGUMENT, () -> x.enter(0, 0, 5, 4));
         due("nothing entered by those", 3, () -> x.enter(0, 3, 5, 5));
-        due("still nothing", 0, () -> x.isAllowed(0, 0, 4) ? 1 : 0);
+        due("still nothing", 0, () -> x.isAllowed(0, 0, 4));
         for (int entry = 4; entry < 60; entry++) {
             int number = entry;
             due("entry " + entry, number, () -> x.enter(0, 1, 0, 0));
@@ -145,24 +95,24 @@ public final class PromiseTest {
     }
 
     private void strike() {
-        promise = "3";
-        ruleOf("t;m;");
+        about = "3";
+        x.ruleOf("t;m;");
         x.open(0, 3, 1, 0);
         x.open(0, 3, 1, 0);
         x.open(1, 3, 1, 0);
         x.enter(0, 4, 0, 5);
         x.enter(0, 4, 3, 9);
         x.enter(1, 4, 0, 9);
-        ballot(0, 4, 0);
-        ballot(1, 4, 0);
-        ballot(2, 4, 0);
+        x.ballot(0, 4, 0);
+        x.ballot(1, 4, 0);
+        x.ballot(2, 4, 0);
         due("of two votes", 2, () -> x.strike(0));
         due("barred then", Ballotscript.BARRED, () -> x.why(0));
         due("barred then", Ballotscript.BARRED, () -> x.why(1));
         due("of another roll", Ballotscript.COUNTS, () -> x.why(2));
         due("struck", Check.STATE, () -> x.strike(0));
         x.pass(4);
-        ballot(0, 4, 1);
+        x.ballot(0, 4, 1);
         due("a later one counts", Ballotscript.COUNTS, () -> x.why(3));
         x.enter(0, 4, 4, 4);
         due("another entry has the day", 0, () -> x.strike(1));
@@ -176,29 +126,29 @@ public final class PromiseTest {
     }
 
     private void isAllowed() {
-        promise = "4";
+        about = "4";
         x.enter(1, 6, 10, 20);
         x.enter(1, 6, 15, 30);
         x.enter(2, 6, 40, 40);
         int[][] days = {{9, 0}, {10, 1}, {20, 1}, {21, 1}, {30, 1}, {31, 0}, {40, 0}, {0, 0}, {1000, 0}};
         for (int[] day : days) {
-            due("day " + day[0], day[1], () -> x.isAllowed(1, 6, day[0]) ? 1 : 0);
+            due("day " + day[0], day[1], () -> x.isAllowed(1, 6, day[0]));
         }
-        due("another roll", 1, () -> x.isAllowed(2, 6, 40) ? 1 : 0);
-        due("another person", 0, () -> x.isAllowed(1, 5, 10) ? 1 : 0);
+        due("another roll", 1, () -> x.isAllowed(2, 6, 40));
+        due("another person", 0, () -> x.isAllowed(1, 5, 10));
         x.strike(0);
-        due("struck", 0, () -> x.isAllowed(1, 6, 14) ? 1 : 0);
-        due("by the other one", 1, () -> x.isAllowed(1, 6, 15) ? 1 : 0);
-        due("roll", Check.INDEX, () -> x.isAllowed(3, 0, 1001) ? 1 : 0);
-        due("roll", Check.INDEX, () -> x.isAllowed(-1, 0, 0) ? 1 : 0);
-        due("person", Check.INDEX, () -> x.isAllowed(0, 20, -1) ? 1 : 0);
-        due("person", Check.INDEX, () -> x.isAllowed(0, -1, 0) ? 1 : 0);
-        due("day", Check.ARGUMENT, () -> x.isAllowed(0, 0, -1) ? 1 : 0);
-        due("day", Check.ARGUMENT, () -> x.isAllowed(0, 0, 1001) ? 1 : 0);
+        due("struck", 0, () -> x.isAllowed(1, 6, 14));
+        due("by the other one", 1, () -> x.isAllowed(1, 6, 15));
+        due("roll", Check.INDEX, () -> x.isAllowed(3, 0, 1001));
+        due("roll", Check.INDEX, () -> x.isAllowed(-1, 0, 0));
+        due("person", Check.INDEX, () -> x.isAllowed(0, 20, -1));
+        due("person", Check.INDEX, () -> x.isAllowed(0, -1, 0));
+        due("day", Check.ARGUMENT, () -> x.isAllowed(0, 0, -1));
+        due("day", Check.ARGUMENT, () -> x.isAllowed(0, 0, 1001));
     }
 
     private void pass() {
-        promise = "5";
+        about = "5";
         due("one", 1, () -> x.pass(1));
         for (int days : new int[] {0, -1, 101, LOW, HIGH}) {
             due("days " + days, Check.ARGUMENT, () -> x.pass(days));
@@ -211,21 +161,22 @@ public final class PromiseTest {
         due("range first", Check.ARGUMENT, () -> x.pass(101));
         due("the last day", 1000, () -> x.pass(99));
         due("behind 1000", Check.STATE, () -> x.pass(1));
-        ruleOf("m;");
+        x.ruleOf("m;");
         x.open(0, 2, 1, 0);
         x.enter(0, 0, 1000, 1000);
-        ballot(0, 0, 1);
+        x.ballot(0, 0, 1);
         due("a ballot is of today", Ballotscript.COUNTS, () -> x.why(0));
     }
 
     private void type() {
-        promise = "6";
+        about = "6";
         String letters = "azmyb09;()cdefghijklnopq";
         for (int letter = 0; letter < 256; letter++) {
             char one = (char) letter;
             boolean fits = one >= 'a' && one <= 'z' || one >= '0' && one <= '9' || ";()".indexOf(one) >= 0;
-            x.wipe();
+            x = new House();
             due("letter " + letter, fits ? 1 : Check.ARGUMENT, () -> x.type(one));
+            due("letter " + letter + ", the text", fits ? 1 : 0, () -> x.wipe());
         }
         due("a far letter", Check.ARGUMENT, () -> x.type((char) ('a' + 256)));
         due("the last letter", Check.ARGUMENT, () -> x.type((char) 65535));
@@ -240,9 +191,9 @@ public final class PromiseTest {
     }
 
     private void wipe() {
-        promise = "7";
+        about = "7";
         due("nothing", 0, () -> x.wipe());
-        text("t;m;");
+        x.text("t;m;");
         due("four", 4, () -> x.wipe());
         due("empty then", 0, () -> x.wipe());
         due("empty then", 0, () -> x.fault());
@@ -250,7 +201,7 @@ public final class PromiseTest {
     }
 
     private void fault() {
-        promise = "8";
+        about = "8";
         Object[][] texts = {
             {"", 0}, {"t", 1}, {"t;", -1}, {"b;", -1}, {"a;", -1}, {"m;", -1}, {"x;", -1}, {"r;", -1},
             {"l;", -1}, {"h;", -1}, {"q;", -1}, {"e;", 1}, {"e", 1}, {"e5", 2}, {"e5;", -1}, {"e05;", -1},
@@ -262,19 +213,20 @@ public final class PromiseTest {
             {"((((((((((((((((((((((((", 24}, {"(((((((((((t;)))))))))))", -1}, {"((((((((((((t;))))))))))", 24},
             {"t;t;t;t;t;t;t;t;t;t;t;m;", -1}, {"t;t;t;t;t;t;t;t;t;t;t;m)", 23}, {"cz", 0}, {"e123456", 3}};
         for (Object[] text : texts) {
-            text((String) text[0]);
+            x = new House();
+            x.text((String) text[0]);
             due("of " + text[0], (Integer) text[1], () -> x.fault());
         }
     }
 
     private void rule() {
-        promise = "9";
+        about = "9";
         due("no text", Check.ARGUMENT, () -> x.rule());
-        text("t;m");
+        x.text("t;m");
         due("too short", Check.ARGUMENT, () -> x.rule());
-        text("t;)m;");
+        x.text("t;)m;");
         due("wrong", Check.ARGUMENT, () -> x.rule());
-        text("t;m;");
+        x.text("t;m;");
         for (int rule = 0; rule < 8; rule++) {
             int number = rule;
             due("rule " + rule, number, () -> x.rule());
@@ -287,21 +239,21 @@ public final class PromiseTest {
     }
 
     private void mend() {
-        promise = "10";
+        about = "10";
         house("t;m;", 3, 1);
-        ruleOf("t;m;");
+        x.ruleOf("t;m;");
         x.open(0, 3, 1, 0);
         x.open(0, 3, 1, 1);
         x.open(0, 3, 1, 0);
         for (int vote = 0; vote < 3; vote++) {
-            ballot(vote, 1, 2, 1);
-            ballot(vote, 2, 2, 1);
-            ballot(vote, 3, 1, 2);
+            x.ballot(vote, 1, 2, 1);
+            x.ballot(vote, 2, 2, 1);
+            x.ballot(vote, 3, 1, 2);
         }
         due("as it was", 4, () -> x.winners(0));
         x.close(1);
         // vote 3 has no ballot: 0 wins it by any ties broken by l
-        due("other winners, open and closed", 2, () -> mendTo(0, "l;m;t;x;"));
+        due("other winners, open and closed", 2, () -> x.mendTo(0, "l;m;t;x;"));
         due("another rule is not touched", 4, () -> x.winners(2));
         due("the same again", 0, () -> x.mend(0));
         due("a text that stays", 8, () -> x.wipe());
@@ -309,27 +261,27 @@ public final class PromiseTest {
         for (int rule : new int[] {-1, 2, 8, LOW, HIGH}) {
             due("rule " + rule, Check.INDEX, () -> x.mend(rule));
         }
-        text("t;m");
+        x.text("t;m");
         due("too short", Check.ARGUMENT, () -> x.mend(1));
         due("not mended by those", 4, () -> x.winners(2));
         due("its commands are those of now", 4, () -> x.commands(0));
         house("h;r;", 4, 2);
         due("all seats by h", 12, () -> x.winners(0));
-        due("by l", 1, () -> mendTo(0, "r;"));
+        due("by l", 1, () -> x.mendTo(0, "r;"));
         due("the lowest two", 3, () -> x.winners(0));
-        due("a shorter rule leaves nothing behind", 1, () -> mendTo(0, "m;"));
+        due("a shorter rule leaves nothing behind", 1, () -> x.mendTo(0, "m;"));
         due("the lowest one", 1, () -> x.winners(0));
     }
 
     private void commands() {
-        promise = "11";
+        about = "11";
         Object[][] rules = {{"t;", 1}, {"(t;e50;x;)", 3}, {"((t;)(m;)x;)", 3}, {"e5;", 1}, {"e55;e5;", 2},
             {"t;t;t;t;t;t;t;t;t;t;t;m;", 12}, {"(((((((((((t;)))))))))))", 1}};
         for (int rule = 0; rule < rules.length; rule++) {
-            int number = ruleOf((String) rules[rule][0]);
+            int number = x.ruleOf((String) rules[rule][0]);
             due("of " + rules[rule][0], (Integer) rules[rule][1], () -> x.commands(number));
         }
-        mendTo(5, "l;h;q;");
+        x.mendTo(5, "l;h;q;");
         due("mended", 3, () -> x.commands(5));
         for (int rule : new int[] {-1, 7, 8, LOW, HIGH}) {
             due("rule " + rule, Check.INDEX, () -> x.commands(rule));
@@ -337,9 +289,9 @@ public final class PromiseTest {
     }
 
     private void open() {
-        promise = "12";
+        about = "12";
         due("no rule", Check.INDEX, () -> x.open(0, 2, 1, 0));
-        ruleOf("r;");
+        x.ruleOf("r;");
         due("fewest", 0, () -> x.open(0, 2, 1, 0));
         due("most", 1, () -> x.open(2, 6, 5, 0));
         for (int roll : new int[] {-1, 3, LOW, HIGH}) {
@@ -366,13 +318,13 @@ public final class PromiseTest {
     }
 
     private void close() {
-        promise = "13";
+        about = "13";
         house("t;m;", 3, 1);
         x.open(1, 3, 1, 0);
-        ballot(0, 1, 0);
-        ballot(0, 1, 1);
-        ballot(0, 2, 1);
-        ballot(1, 3, 1);
+        x.ballot(0, 1, 0);
+        x.ballot(0, 1, 1);
+        x.ballot(0, 2, 1);
+        x.ballot(1, 3, 1);
         due("those that count", 2, () -> x.close(0));
         due("barred", 0, () -> x.close(1));
         due("closed", Check.STATE, () -> x.close(0));
@@ -384,7 +336,7 @@ public final class PromiseTest {
     }
 
     private void mark() {
-        promise = "14";
+        about = "14";
         for (int candidate : new int[] {-1, 6, LOW, HIGH}) {
             due("candidate " + candidate, Check.INDEX, () -> x.mark(candidate));
         }
@@ -394,7 +346,7 @@ public final class PromiseTest {
             due("candidate " + order[i], many, () -> x.mark(order[many - 1]));
             due("marked", Check.STATE, () -> x.mark(order[many - 1]));
         }
-        ruleOf("m;");
+        x.ruleOf("m;");
         x.open(0, 6, 1, 0);
         x.cast(0, 0);
         for (int i = 0; i < 6; i++) {
@@ -404,7 +356,7 @@ public final class PromiseTest {
     }
 
     private void cast() {
-        promise = "15";
+        about = "15";
         house("t;m;", 3, 1);
         x.open(0, 4, 1, 0);
         due("none marked", Check.STATE, () -> x.cast(0, 0));
@@ -441,20 +393,20 @@ public final class PromiseTest {
     }
 
     private void why() {
-        promise = "16";
-        ruleOf("t;m;");
+        about = "16";
+        x.ruleOf("t;m;");
         x.open(0, 3, 1, 0);
         x.open(0, 3, 1, 0);
         x.enter(0, 1, 0, 3);
         x.enter(0, 2, 4, 9);
-        ballot(0, 1, 0);
-        ballot(0, 2, 0);
-        ballot(1, 1, 0);
+        x.ballot(0, 1, 0);
+        x.ballot(0, 2, 0);
+        x.ballot(1, 1, 0);
         due("allowed", Ballotscript.COUNTS, () -> x.why(0));
         due("not allowed that day", Ballotscript.BARRED, () -> x.why(1));
         x.pass(4);
-        ballot(0, 1, 1);
-        ballot(0, 2, 1);
+        x.ballot(0, 1, 1);
+        x.ballot(0, 2, 1);
         due("later ahead of all", Ballotscript.LATER, () -> x.why(0));
         due("later ahead of barred", Ballotscript.LATER, () -> x.why(1));
         due("of another vote", Ballotscript.COUNTS, () -> x.why(2));
@@ -468,11 +420,11 @@ public final class PromiseTest {
     }
 
     private void read() {
-        promise = "17";
+        about = "17";
         house("t;m;", 6, 1);
-        ballot(0, 0, 5, 4, 3, 2, 1, 0);
-        ballot(0, 1, 2);
-        ballot(0, 2, 1, 3, 0);
+        x.ballot(0, 0, 5, 4, 3, 2, 1, 0);
+        x.ballot(0, 1, 2);
+        x.ballot(0, 2, 1, 3, 0);
         for (int place = 0; place < 6; place++) {
             int one = place;
             due("place " + place, 5 - place, () -> x.read(0, one));
@@ -491,42 +443,37 @@ public final class PromiseTest {
         }
     }
 
-    private long misreadOf(int ballot) {
-        x.misread(ballot);
-        return 0;
-    }
-
     private void misread() {
-        promise = "18";
+        about = "18";
         house("t;m;", 3, 1);
-        ballot(0, 0, 2, 1);
-        ballot(0, 1, 0);
+        x.ballot(0, 0, 2, 1);
+        x.ballot(0, 1, 0);
         due("before", 1, () -> x.winners(0));
-        due("two", 0, () -> misreadOf(0));
-        due("misread", Check.STATE, () -> misreadOf(0));
+        due("two", 0, () -> x.misread(0));
+        due("misread", Check.STATE, () -> x.misread(0));
         due("still misread", 1, () -> x.read(0, 0));
-        due("one alone", Check.STATE, () -> misreadOf(1));
+        due("one alone", Check.STATE, () -> x.misread(1));
         for (int ballot : new int[] {-1, 2, 100, LOW, HIGH}) {
-            due("ballot " + ballot, Check.INDEX, () -> misreadOf(ballot));
+            due("ballot " + ballot, Check.INDEX, () -> x.misread(ballot));
         }
-        ballot(0, 0, 2);
+        x.ballot(0, 0, 2);
         due("of one that does not count", 1, () -> x.recount(0));
-        due("again after it is put right", 0, () -> misreadOf(0));
-        ballot(0, 2, 2, 1);
+        due("again after it is put right", 0, () -> x.misread(0));
+        x.ballot(0, 2, 2, 1);
         due("counts go by what is read", 4, () -> x.winners(0));
         x.close(0);
-        due("in a closed vote", 0, () -> misreadOf(3));
+        due("in a closed vote", 0, () -> x.misread(3));
         bothWinners("the machine read 1, 0 and 2", 1);
     }
 
     private void sample() {
-        promise = "19";
+        about = "19";
         house("t;m;", 3, 1);
         x.open(0, 3, 1, 0);
         due("none counts", Check.STATE, () -> x.sample(0, 0, 1));
         due("none counts, range first", Check.ARGUMENT, () -> x.sample(0, -1, 1));
         for (int person = 0; person < 5; person++) {
-            ballot(0, person, 0, 1);
+            x.ballot(0, person, 0, 1);
         }
         // 12345, 62928, 19305, .. of which the places are 0 3 0 0 0 3 1 4 4 1 0 0 2 3 4 0 4 3 2 3
         x.misread(2);
@@ -554,13 +501,13 @@ public final class PromiseTest {
     }
 
     private void sampleDrawsThoseThatCount() {
-        promise = "19";
+        about = "19";
         house("t;m;", 3, 1);
         x.open(0, 3, 1, 0);
-        ballot(0, 0, 0, 1);
-        ballot(1, 0, 0, 1);
-        ballot(0, 0, 0, 1);
-        ballot(0, 1, 0, 1);
+        x.ballot(0, 0, 0, 1);
+        x.ballot(1, 0, 0, 1);
+        x.ballot(0, 0, 0, 1);
+        x.ballot(0, 1, 0, 1);
         x.misread(0);
         x.misread(1);
         x.misread(2);
@@ -577,13 +524,13 @@ public final class PromiseTest {
     }
 
     private void recount() {
-        promise = "20";
+        about = "20";
         house("t;m;", 3, 1);
         x.open(0, 3, 1, 0);
-        ballot(0, 0, 0, 1);
-        ballot(0, 0, 0, 1);
-        ballot(0, 1, 0, 1);
-        ballot(1, 1, 0, 1);
+        x.ballot(0, 0, 0, 1);
+        x.ballot(0, 0, 0, 1);
+        x.ballot(0, 1, 0, 1);
+        x.ballot(1, 1, 0, 1);
         due("none", 0, () -> x.recount(0));
         for (int one = 0; one < 4; one++) {
             x.misread(one);
@@ -602,11 +549,11 @@ public final class PromiseTest {
     }
 
     private void doubt() {
-        promise = "21";
+        about = "21";
         house("t;m;", 3, 1);
         x.open(0, 3, 1, 0);
         due("no draws", 0, () -> x.doubt(0));
-        ballot(0, 0, 0, 1);
+        x.ballot(0, 0, 0, 1);
         x.misread(0);
         x.sample(0, 1, 1);
         due("one of one", 100, () -> x.doubt(0));
@@ -632,27 +579,22 @@ public final class PromiseTest {
     }
 
     private void winners() {
-        promise = "22";
+        about = "22";
         house("t;m;", 3, 1);
         bothWinners("without ballots the lowest", 1);
-        ballot(0, 0, 2);
+        x.ballot(0, 0, 2);
         bothWinners("open", 4);
-        ballot(0, 1, 1);
-        ballot(0, 2, 1, 2);
+        x.ballot(0, 1, 1);
+        x.ballot(0, 2, 1, 2);
         bothWinners("most", 2);
         x.close(0);
         bothWinners("closed", 2);
         noVote(x::winners);
     }
 
-    /** What each command does, told by the winners of one house. */
+    /** What each command does, told by the winners of the same ballots. */
     private void winnersByCommand() {
-        promise = "22";
-        house("t;m;", 4, 2);
-        int[][] orders = {{0, 1}, {0, 1}, {0, 2}, {1, 2}, {1, 3}, {2, 3}, {3, 2, 1}};
-        for (int person = 0; person < orders.length; person++) {
-            ballot(0, person, orders[person]);
-        }
+        about = "22";
         // t: 3 2 1 1; b: 12 17 14 10; a: 3 5 4 3; weight 7
         Object[][] rules = {
             {"t;m;", 1}, {"b;m;", 2}, {"a;m;", 2}, {"t;r;", 3}, {"b;r;", 6}, {"a;r;", 6},
@@ -664,16 +606,17 @@ public final class PromiseTest {
             {"(t;e50;x;)r;", 9}, {"t;m;x;r;", 3}, {"t;m;t;m;", 3}, {"t;m;b;m;", 3}, {"x;m;b;m;", 6},
             {"l;", 0}, {"t;", 0}, {"x;", 0}, {"m;x;x;x;m;", 9}};
         for (Object[] rule : rules) {
-            mendTo(0, (String) rule[0]);
+            house((String) rule[0], 4, 2);
+            x.ballots(0, "01", "01", "02", "12", "13", "23", "321");
             bothWinners((String) rule[0], (Integer) rule[1]);
         }
     }
 
     private void winnersAfterChanges() {
-        promise = "22";
+        about = "22";
         house("t;m;", 3, 1);
-        ballot(0, 0, 1, 2);
-        ballot(0, 1, 2);
+        x.ballot(0, 0, 1, 2);
+        x.ballot(0, 1, 2);
         x.close(0);
         bothWinners("1 and 2 tied", 2);
         x.strike(0);
@@ -684,37 +627,37 @@ public final class PromiseTest {
         bothWinners("misread", 4);
         x.recount(0);
         bothWinners("put right", 2);
-        mendTo(0, "h;t;m;");
+        x.mendTo(0, "h;t;m;");
         bothWinners("mended", 4);
     }
 
     private void winnersByHand() {
-        promise = "23";
+        about = "23";
         house("t;m;", 6, 5);
         bothWinners("one of five", 1);
-        mendTo(0, "r;");
+        x.mendTo(0, "r;");
         bothWinners("all five", 31);
-        mendTo(0, "(((((((((((m;)))))))))))");
+        x.mendTo(0, "(((((((((((m;)))))))))))");
         bothWinners("all five, by brackets", 31);
         noVote(x::winnersByHand);
     }
 
     private void tallies() {
-        promise = "24";
+        about = "24";
         house("t;m;", 6, 1);
-        ballot(0, 0, 1);
+        x.ballot(0, 0, 1);
         Object[][] rules = {{"t;m;", 1}, {"m;t;", 0}, {"t;e0;t;", 1}, {"t;b;a;t;", 4}, {"m;", 0}, {"(t;)", 1},
             {"(t;x;)", 6}, {"(t;x;)t;", 7}, {"x;(x;t;)", 5}, {"(t;(x;))", 2}, {"((t;x;)b;)", 9}, {"(t;m;b;)", 1},
             {"(t;t;t;t;t;t;t;t;t;t;x;)", 60}};
         for (Object[] rule : rules) {
-            mendTo(0, (String) rule[0]);
+            x.mendTo(0, (String) rule[0]);
             due((String) rule[0], (Integer) rule[1], () -> x.tallies(0));
         }
         noVote(x::tallies);
     }
 
     private void deepBrackets() {
-        promise = "24";
+        about = "24";
         house("((((((((((t;x;))))))))))", 6, 1);
         due("the innermost row: six times, and once more for each bracket round it", 15, () -> x.tallies(0));
         due("the last one", 0, () -> x.votes(0, 14, 5));
@@ -723,12 +666,12 @@ public final class PromiseTest {
     }
 
     private void votes() {
-        promise = "25";
+        about = "25";
         house("t;b;a;x;t;b;a;", 4, 1);
-        ballot(0, 0, 2, 1);
-        ballot(0, 1, 2, 3, 1, 0);
-        ballot(0, 2, 1, 2, 3);
-        ballot(0, 3, 0);
+        x.ballot(0, 0, 2, 1);
+        x.ballot(0, 1, 2, 3, 1, 0);
+        x.ballot(0, 2, 1, 2, 3);
+        x.ballot(0, 3, 0);
         // the lowest of those with the fewest of a is out: 0
         int[][] all = {{1, 1, 2, 0}, {5, 9, 11, 5}, {2, 3, 3, 2}, {-1, 1, 2, 0}, {-1, 6, 8, 3}, {-1, 3, 3, 2}};
         for (int tally = 0; tally < all.length; tally++) {
@@ -750,43 +693,43 @@ public final class PromiseTest {
         due("as it is read", 1, () -> x.votes(0, 0, 2));
         x.strike(3);
         due("barred", 0, () -> x.votes(0, 0, 0));
-        mendTo(0, "t;e24;b;");
+        x.mendTo(0, "t;e24;b;");
         due("an elected one stands no more", Check.INDEX, () -> x.votes(0, 1, 1));
         x.open(0, 4, 2, 0);
-        ballot(1, 0, 3, 1);
+        x.ballot(1, 0, 3, 1);
         due("the elected one", Ballotscript.NONE, () -> x.votes(1, 1, 3));
         due("three stand", 3, () -> x.votes(1, 1, 1));
     }
 
     private void ties() {
-        promise = "26";
+        about = "26";
         house("m;", 4, 2);
         Object[][] rules = {{"m;", 1}, {"r;", 2}, {"x;", 1}, {"x;x;x;", 2}, {"e0;", 0}, {"t;e0;", 0},
             {"t;e99;", 0}, {"x;x;m;", 3}, {"x;x;r;", 3}, {"(x;m;)", 3}, {"t;", 0}};
         for (Object[] rule : rules) {
-            mendTo(0, (String) rule[0]);
+            x.mendTo(0, (String) rule[0]);
             due((String) rule[0], (Integer) rule[1], () -> x.ties(0));
         }
-        ballot(0, 0, 1);
-        ballot(0, 1, 2);
-        mendTo(0, "t;e0;");
+        x.ballot(0, 0, 1);
+        x.ballot(0, 1, 2);
+        x.mendTo(0, "t;e0;");
         due("the second one alone", 1, () -> x.ties(0));
-        mendTo(0, "t;e50;");
+        x.mendTo(0, "t;e50;");
         due("with e nobody elected", 0, () -> x.ties(0));
         noVote(x::ties);
     }
 
     private void tied() {
-        promise = "27";
+        about = "27";
         house("h;r;", 4, 2);
         due("first", 15, () -> x.tied(0, 0));
         due("second", 7, () -> x.tied(0, 1));
         for (int tie : new int[] {-1, 2, 6, LOW, HIGH}) {
             due("tie " + tie, Check.INDEX, () -> x.tied(0, tie));
         }
-        ballot(0, 0, 1, 3);
-        ballot(0, 1, 3);
-        mendTo(0, "b;t;x;q;m;");
+        x.ballot(0, 0, 1, 3);
+        x.ballot(0, 1, 3);
+        x.mendTo(0, "b;t;x;q;m;");
         due("worst", 5, () -> x.tied(0, 0));
         due("best, whole, ahead of q", 10, () -> x.tied(0, 1));
         bothWinners("by the tally ahead", 8);
@@ -794,31 +737,31 @@ public final class PromiseTest {
     }
 
     private void brokenByEarlierTallies() {
-        promise = "27";
+        about = "27";
         house("m;", 4, 1);
-        ballot(0, 0, 0, 1, 2);
-        ballot(0, 1, 1, 0);
-        ballot(0, 2, 2);
-        ballot(0, 3, 3, 2);
+        x.ballot(0, 0, 0, 1, 2);
+        x.ballot(0, 1, 1, 0);
+        x.ballot(0, 2, 2);
+        x.ballot(0, 3, 3, 2);
         // t: 1 1 1 1; b: 7 7 9 4 (0: 4+3, 1: 3+4, 2: 2+4+3); a: 2 2 3 1
         Object[][] rules = {
             {"q;t;m;", 1}, {"q;b;t;m;", 4}, {"q;t;b;t;m;", 4}, {"b;t;m;", 1}, {"b;t;q;h;m;", 8},
             {"q;b;t;x;b;t;m;", 4}, {"b;q;t;x;a;", 0}};
         for (Object[] rule : rules) {
-            mendTo(0, (String) rule[0]);
+            x.mendTo(0, (String) rule[0]);
             bothWinners((String) rule[0], (Integer) rule[1]);
         }
-        mendTo(0, "b;q;t;x;t;");
+        x.mendTo(0, "b;q;t;x;t;");
         due("the worst one has the fewest", Ballotscript.NONE, () -> x.votes(0, 2, 3));
         due("the others stand", 1, () -> x.votes(0, 2, 0));
-        mendTo(0, "t;q;m;");
+        x.mendTo(0, "t;q;m;");
         due("no tally ahead: the lowest", 1, () -> x.winners(0));
     }
 
     private void certify() {
-        promise = "28";
+        about = "28";
         house("t;m;", 3, 1);
-        ballot(0, 0, 2);
+        x.ballot(0, 0, 2);
         due("open", Check.STATE, () -> x.certify(0));
         due("nothing certified by that", Ballotscript.NONE, () -> x.certified(0));
         x.close(0);
@@ -831,29 +774,29 @@ public final class PromiseTest {
     }
 
     private void certified() {
-        promise = "29";
+        about = "29";
         house("t;m;", 3, 1);
         due("none", Ballotscript.NONE, () -> x.certified(0));
-        ballot(0, 0, 1);
+        x.ballot(0, 0, 1);
         x.close(0);
         due("none by closing", Ballotscript.NONE, () -> x.certified(0));
         x.certify(0);
         due("these", 2, () -> x.certified(0));
         x.strike(0);
         due("not those of now", 2, () -> x.certified(0));
-        mendTo(0, "t;");
+        x.mendTo(0, "t;");
         x.certify(0);
         due("nobody is a set, too", 0, () -> x.certified(0));
         noVote(x::certified);
     }
 
     private void stale() {
-        promise = "30";
+        about = "30";
         house("t;m;", 3, 1);
         x.open(0, 3, 1, 0);
         x.open(0, 3, 1, 0);
         for (int vote = 0; vote < 3; vote++) {
-            ballot(vote, vote, 1, 2);
+            x.ballot(vote, vote, 1, 2);
         }
         due("none certified", 0, () -> x.stale());
         x.close(0);
@@ -871,11 +814,11 @@ public final class PromiseTest {
         due("put right", 1, () -> x.stale());
         x.enter(0, 0, 0, 5);
         due("allowed again", 0, () -> x.stale());
-        mendTo(0, "t;");
+        x.mendTo(0, "t;");
         due("mended", 2, () -> x.stale());
         x.certify(1);
         due("certified anew", 1, () -> x.stale());
-        mendTo(0, "t;m;");
+        x.mendTo(0, "t;m;");
         due("mended back: the other one", 1, () -> x.stale());
     }
 }

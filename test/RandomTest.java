@@ -1,7 +1,8 @@
 /** Long runs of calls that look drawn (by a fixed row of numbers), each answer held to the Model. */
 public final class RandomTest {
     private static final int RUNS = 3000;
-    private static final int CALLS = 512;
+    // what is begun by then ends within the 512 calls that the document allows
+    private static final int CALLS = 484;
     private static final String[] RULES = {
         "t;e50;(x;t;e50;)r;", "(t;e50;x;)", "q;t;(t;x;)r;", "b;m;", "b;h;r;", "a;r;", "t;x;b;x;a;r;",
         "q;b;a;t;x;r;", "((t;e33;)x;)", "a;e99;x;x;", "l;m;h;m;q;m;", "t;e0;", "e0;t;e1;", "x;x;",
@@ -12,7 +13,7 @@ public final class RandomTest {
     private final Check check = new Check();
     private final int run;
     private long number;
-    private Ballotscript x;
+    private House x;
     private Model m;
     // how wild the arguments are, and which days, candidates and persons this run prefers
     private int wild;
@@ -58,7 +59,7 @@ public final class RandomTest {
     }
 
     private void go(long[] shapes) {
-        x = new Ballotscript();
+        x = new House();
         m = new Model();
         wild = next(4) * 20;
         int left = CALLS;
@@ -150,10 +151,7 @@ public final class RandomTest {
             due("pass(" + days + ")", m.pass(days), () -> x.pass(days));
         } else if (what < 30) {
             int ballot = from(0, 40);
-            due("misread(" + ballot + ")", m.misread(ballot), () -> {
-                x.misread(ballot);
-                return 0;
-            });
+            due("misread(" + ballot + ")", m.misread(ballot), () -> x.misread(ballot));
         } else if (what < 32) {
             int vote = from(0, 3);
             int seed = from(0, 9999);
@@ -243,7 +241,7 @@ public final class RandomTest {
                 int person = from(0, 19);
                 int day = from(0, 1000);
                 due("isAllowed(" + roll + ", " + person + ", " + day + ")", m.isAllowed(roll, person, day),
-                        () -> x.isAllowed(roll, person, day) ? 1 : 0);
+                        () -> x.isAllowed(roll, person, day));
                 int rule = from(0, 4);
                 due("commands(" + rule + ")", m.commands(rule), () -> x.commands(rule));
                 return 2;

@@ -882,7 +882,7 @@ public final class Ballotscript {
 
         // Does the row that begins at a place; returns the place of the bracket that ends it, or
         // that behind the text.
-        int doRow(Rule rule, int from, int depth) {
+        private int doRow(Rule rule, int from, int depth) {
             if (depth > MOST_LETTERS) {
                 return rule.size;
             }
