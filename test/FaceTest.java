@@ -149,6 +149,30 @@ public final class FaceTest {
         }
     }
 
+    // Short methods, and one that calls itself is a private static one.
+    private static void methodsOf(String[] lines) {
+        Pattern declared = Pattern.compile("( {4}| {8})(?!(?:if|for|while|do|switch|else|return|throw)\\b)"
+                + "((?:\\w+ )*)(\\w+)\\([^;=]*");
+        int found = 0;
+        for (int start = 0; start < lines.length; start++) {
+            Matcher method = declared.matcher(lines[start]);
+            if (!method.matches()) {
+                continue;
+            }
+            found++;
+            int end = start + 1;
+            while (end < lines.length && !lines[end].equals(method.group(1) + "}")) {
+                end++;
+            }
+            is("the method in line " + (start + 1) + " is short", end - start <= 60);
+            String body = String.join("\n", Arrays.copyOfRange(lines, start + 1, end));
+            boolean callsItself = Pattern.compile("(?<![\\w.])" + method.group(3) + "\\(").matcher(body).find();
+            is(method.group(3) + " calls itself and is private and static",
+                    !callsItself || method.group(2).startsWith("private static "));
+        }
+        is("the methods were found", found > 70);
+    }
+
     private static void text(String source) {
         String code = source.replaceAll("(?s)/\\*.*?\\*/", "").replaceAll("//[^\n]*", "");
         for (String banned : BANNED) {
@@ -164,15 +188,9 @@ public final class FaceTest {
             is(thrown.group(), thrown.group(1).matches("new (IllegalState|IllegalArgument|IndexOutOfBounds)"
                     + "Exception\\(\"[^\"]*\"\\);"));
         }
-        int start = 0;
         String[] lines = source.split("\n");
+        methodsOf(lines);
         for (int line = 0; line < lines.length; line++) {
-            if (lines[line].matches(" {4}( {4})?\\S.*") && !lines[line].trim().startsWith("}")) {
-                start = line;
-            }
-            if (lines[line].matches(" {4}( {4})?}") && !lines[start].contains("class")) {
-                is("the method in line " + (start + 1) + " is short", line - start <= 60);
-            }
             is("line " + (line + 1) + " is of the signs 1 to 127", lines[line].matches("\\p{ASCII}*"));
         }
     }

@@ -629,6 +629,13 @@ public final class PromiseTest extends Bench {
         bothWinners("put right", 2);
         x.mendTo(0, "h;t;m;");
         bothWinners("mended", 4);
+        x.certify(0);
+        bothWinners("certified", 4);
+        x.strike(1);
+        bothWinners("1 is barred, behind the certificate", 2);
+        tallyIs(0, 0, 1, 0);
+        tiesAre();
+        due("the certificate stays", 4, () -> x.certified(0));
     }
 
     private void winnersByHand() {

@@ -292,7 +292,7 @@ public final class Ballotscript {
         needVote(vote);
         box.gather(vote);
         hand.begin(house[vote].candidates, house[vote].seats);
-        hand.doRow(rules[house[vote].rule], 0, 0);
+        HandCount.doRow(hand, rules[house[vote].rule], 0, 0);
         return hand.elected;
     }
 
@@ -882,16 +882,16 @@ public final class Ballotscript {
 
         // Does the row that begins at a place; returns the place of the bracket that ends it, or
         // that behind the text.
-        private int doRow(Rule rule, int from, int depth) {
+        private static int doRow(HandCount hand, Rule rule, int from, int depth) {
             if (depth > MOST_LETTERS) {
                 return rule.size;
             }
             int place = from;
-            for (int turn = 0; turn < MOST_LETTERS && place < rule.size && openSeats > 0; turn++) {
-                char letter = rule.letters[place];
-                if (letter == ')') {
+            for (int turn = 0; turn < MOST_LETTERS && hand.openSeats > 0; turn++) {
+                if (place >= rule.size || rule.letters[place] == ')') {
                     return place;
                 }
+                char letter = rule.letters[place];
                 place++;
                 if (letter != '(') {
                     int number = 0;
@@ -899,14 +899,14 @@ public final class Ballotscript {
                         number = 10 * number + (rule.letters[place] - '0');
                     }
                     place++;
-                    obey(letter, number);
+                    hand.obey(letter, number);
                     continue;
                 }
                 int start = place;
-                int stoodBefore = NONE;
-                for (int pass = 0; pass <= MOST_CANDIDATES && stoodBefore != standing; pass++) {
-                    stoodBefore = standing;
-                    place = doRow(rule, start, depth + 1);
+                int before = NONE;
+                for (int pass = 0; pass <= MOST_CANDIDATES && before != hand.standing; pass++) {
+                    before = hand.standing;
+                    place = doRow(hand, rule, start, depth + 1);
                 }
                 place++;
             }
